@@ -94,7 +94,7 @@ final class ActTest {
 
     private static void faults() {
         Object[][] texts = {
-            {"p", 0}, {"pays 1;", 0}, {"  x", 2}, {"9;", 0}, {";", 0}, {"if", 0}, {"(", 0}, {"Pay 1;", 0},
+            {"p", 0}, {"pays 1;", 0}, {"payz 1;", 0}, {"apay 1;", 0}, {"bar;", 3}, {"pay 1a;", 5}, {"  x", 2}, {"9;", 0}, {";", 0}, {"if", 0}, {"(", 0}, {"Pay 1;", 0},
             {"pay", 3}, {"pay ", 4}, {"pay ;", 4}, {"pay 101;", 4}, {"pay 1000;", 4}, {"pay 0001;", 4}, {"pay x;", 4},
             {"pay -1;", 4}, {"pay 1", 5}, {"pay 1 ", 6}, {"pay 1 1;", 6}, {"pay 1 x;", 6}, {"pay 1 and", 6},
             {"pay 1 ;;", 7}, {"pay 1 if", 8}, {"pay 1 if;", 8}, {"pay 1 if fell", 13}, {"pay 1 if fell;x", 14},
@@ -287,6 +287,12 @@ final class ActTest {
         x.find(2, rests);
         Check.due("found", x.claimOf(1, 0, 7), 1);
         Check.due("both", x.claimOf(1, 0, 4), 20);
+        BurstValley y = town();
+        y.pond(9999);
+        ValleyTest.tellTable(y, 0, 999);
+        y.claim(0, 0);
+        y.find(2, y.lies(0, 0, 0));
+        Check.due("the first FIND", y.claimOf(0, 0, 7), 1);
         x.word(0, 1, 1, 1);
         Check.due("none is POSSIBLE", x.claimOf(1, 0, 4), 80);
         x.tear(0, true);

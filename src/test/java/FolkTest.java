@@ -12,6 +12,7 @@ final class FolkTest {
         thing();
         lies();
         liesAtTheEnds();
+        stillWaterCarries();
         find();
         whose();
         Check.finish("FolkTest");
@@ -182,6 +183,31 @@ final class FolkTest {
         Check.due("falls in MINUTE 178: goes one on", y.lies(0, 0, 0), 1);
         y.gate(99, 177);
         Check.due("falls in MINUTE 177: goes two on", y.lies(0, 0, 0), 2);
+    }
+
+    /**
+     * Ones stay in REACHES 0 to 6, too few to go on. Then 3 come: three HOUSES fall, by which ROUGH
+     * of REACH 0 is 5, and nothing moves any more but the THING.
+     */
+    private static void stillWaterCarries() {
+        BurstValley x = new BurstValley();
+        for (int r = 0; r < 12; r++) {
+            x.reach(r, 1, 2);
+        }
+        for (int h = 0; h < 3; h++) {
+            x.house(0, 4, 0);
+        }
+        x.thing(0, 101, 1);
+        x.pond(10);
+        ValleyTest.tellTable(x, 0, 1, 1, 1, 1, 1, 1, 1, 0);
+        x.gate(99, 150);
+        Check.due("falls late", x.falls(0, 0, 0), 150);
+        Check.due("still", x.depth(0, 0, 0, 151), 4);
+        Check.due("still", x.depth(0, 0, 6, 151), 1);
+        Check.due("dry", x.depth(0, 0, 7, 179), 0);
+        Check.due("goes to the first dry REACH", x.lies(0, 0, 0), 7);
+        x.gate(99, 175);
+        Check.due("as far as the NIGHT goes", x.lies(0, 0, 0), 4);
     }
 
     private static void find() {

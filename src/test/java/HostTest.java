@@ -33,10 +33,11 @@ final class HostTest {
         for (int sort = 0; sort < 5; sort++) {
             Check.due("sheet", x.sheet(3, sort, 40), 1);
             Check.due("all 0", x.item(3, sort, 39), 0);
-            Check.due("put", x.put(3, 39, 1), 1);
+            Check.due("put", x.put(3, 39, 1) + x.put(3, 0, 1), 2);
             Check.due("refused", x.sheet(3, sort, -1), -14);
             Check.due("stays", x.item(3, sort, 39), 1);
             Check.due("anew", x.sheet(3, sort, 40), 1);
+            Check.due("all 0", x.item(3, sort, 0), 0);
             Check.due("all 0", x.item(3, sort, 39), 0);
         }
         Check.due("of no items", x.sheet(3, 0, 0), 1);
@@ -244,6 +245,15 @@ final class HostTest {
         y.again();
         deal(y, 0, 0, 7, 0);
         Check.due("nothing any more", y.taken(0, 0), -11);
+        BurstValley z = town();
+        z.keep();
+        z.person(1, 0, 0);
+        z.claim(1, 0);
+        z.shelf(0, 1, 1);
+        deal(z, 0, 0, 7, 97, 10);
+        z.again();
+        deal(z, 0, 0, 7, 0);
+        Check.due("nothing any more", z.taken(0, 5), -11);
         y.mark(3, 4, 5);
         Check.due("one of that number again", y.taken(0, 2), 0);
     }

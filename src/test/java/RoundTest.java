@@ -175,6 +175,17 @@ final class RoundTest {
         Check.due("CLAIM 1 isn't there any more", x.judge(), 2);
         x.claim(0, 1);
         Check.due("it is there again", x.judge(), 0);
+        BurstValley y = new BurstValley();
+        y.house(1, 5, 5);
+        y.person(1, 0, 0);
+        y.person(2, 0, 0);
+        y.thing(0, 101, 5);
+        y.claim(0, 0);
+        y.keep();
+        y.claim(1, 0);
+        y.round(0b11, 0);
+        y.again();
+        Check.due("of the same THING, gone too", y.judge(), 2);
     }
 
     private static void years() {

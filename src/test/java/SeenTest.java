@@ -74,8 +74,8 @@ final class SeenTest {
         for (int[] w : wrong) {
             Check.due("mark refused", x.mark(w[0], w[1], w[2]), BAD);
         }
-        int[][] right = {{0, 10, 10}, {0, 0, 9}, {0, 11, 999}, {1, 5, 6}, {11, 0, 999}};
-        int[] due = {1, 0, 0, 1, 1};
+        int[][] right = {{0, 10, 10}, {0, 0, 9}, {0, 11, 999}, {1, 5, 6}, {11, 0, 999}, {0, 999, 999}};
+        int[] due = {1, 0, 0, 1, 1, 0};
         for (int i = 0; i < right.length; i++) {
             Check.due("mark", x.mark(right[i][0], right[i][1], right[i][2]), i);
             Check.due("lets " + i, x.lets(i, 0, 29), due[i]);
@@ -145,6 +145,8 @@ final class SeenTest {
         Check.due("side", x.side(3, 2), 0);
         Check.due("side", x.side(3, 1), 2);
         Check.due("side", x.side(0, 1), 0);
+        Check.due("side", x.side(0, 0), 1);
+        Check.due("side", x.side(0, 1), 0);
         Check.due("doubt", x.doubt(-1, true), BAD);
         Check.due("doubt", x.doubt(3, true), BAD);
         x.word(3, 1, 0, 29);
@@ -192,11 +194,24 @@ final class SeenTest {
         x.word(0, 7, 22, 29);
         Check.due("all ROWS", x.possible(0), 2);
         Check.due("first", x.span(0, false), 22);
+        x.word(1, 7, 0, 22);
+        Check.due("one alone", x.span(0, true), 22);
+        x.tear(2, true);
+        x.pond(99);
+        Check.due("when THE POND changes", x.possible(-1), 0);
+        x.pond(100);
+        Check.due("and back", x.possible(-1), 2);
         x.gate(99, 0);
         Check.due("when the valley changes", x.possible(-1), 0);
         x.gate(0, 0);
         x.mark(1, 6, 9);
         Check.due("no DEPTH of 6", x.possible(-1), 0);
+        BurstValley y = burst();
+        y.word(0, 7, 0, 0);
+        for (int way = 0; way < 3; way++) {
+            Check.due("of each WAY one", y.possible(way), 1);
+            Check.due("the first START", y.span(way, true), 0);
+        }
         x.reach(1, 8, 2);
         Check.due("50 by 8 is 6", x.possible(-1), 2);
     }

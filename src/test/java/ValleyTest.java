@@ -181,6 +181,14 @@ final class ValleyTest {
         Check.due("5 just is", x.falls(1, 0, 2), 1);
         Check.due("later", x.falls(1, 20, 2), 21);
         Check.due("another WAY", x.falls(2, 0, 2), NONE);
+        BurstValley y = new BurstValley();
+        y.house(0, 1, 0);
+        y.house(0, 2, 0);
+        y.pond(15);
+        y.gate(10, 7);
+        Check.due("just 1", y.falls(0, 0, 0), 7);
+        y.pond(30);
+        Check.due("10, 17, 22", y.falls(0, 0, 1), 9);
         x.pond(100);
         x.gate(99, 179);
         x.house(0, 9, 0);
