@@ -1121,6 +1121,8 @@ public final class BurstValley {
         final int[] thingAt = new int[THINGS];
         /** THINGS, as bits, that the water may carry on. */
         private int afloat;
+        /** HOUSES, as bits, that fall in this MINUTE. */
+        private int fallNow;
         private int pond;
         /** All REACHES from this one on are dry yet. */
         private int front;
@@ -1147,7 +1149,9 @@ public final class BurstValley {
                 int comes = comesOut(m);
                 int moved = flow(comes);
                 carry();
+                fallNow = 0;
                 rise(m);
+                launch();
                 rests = comes == 0 && moved == 0 && afloat == 0 && noMoreComes(m);
             }
         }
@@ -1213,7 +1217,7 @@ public final class BurstValley {
             return moved;
         }
 
-        /** THINGS go on ahead of rise(), so that one whose HOUSE falls now waits a MINUTE. */
+        /** Goes ahead of launch(), so that a THING whose HOUSE falls now waits a MINUTE. */
         private void carry() {
             if (afloat == 0) {
                 return;
@@ -1252,14 +1256,17 @@ public final class BurstValley {
                         && peak[reach] >= valley.houseStrength[h]) {
                     fellIn[h] = m;
                     roughNow[reach] += roughNow[reach] < 9 ? 1 : 0;
-                    setAfloat(h);
+                    fallNow |= 1 << h;
                 }
             }
         }
 
-        private void setAfloat(int house) {
+        private void launch() {
+            if (fallNow == 0) {
+                return;
+            }
             for (int t = 0; t < folk.things; t++) {
-                if (folk.thingHouse[t] == house) {
+                if ((fallNow >> folk.thingHouse[t] & 1) == 1) {
                     afloat |= 1 << t;
                 }
             }
@@ -1655,67 +1662,54 @@ public final class BurstValley {
             }
         }
 
+        /** What is joined by and is joined first. */
         private boolean parseCond(int open) {
-            if (!parseAll(open)) {
-                return false;
-            }
-            for (int i = 0; i < TAPE_SIZE && token == OR; i++) {
-                advance();
-                if (!parseAll(open)) {
-                    return false;
-                }
-                emit(OR);
-            }
-            return true;
-        }
-
-        private boolean parseAll(int open) {
-            if (!parseOne(open)) {
-                return false;
-            }
-            for (int i = 0; i < TAPE_SIZE && token == AND; i++) {
-                advance();
+            for (int ors = 0; ors < TAPE_SIZE; ors++) {
                 if (!parseOne(open)) {
                     return false;
                 }
-                emit(AND);
+                for (int ands = 0; ands < TAPE_SIZE && token == AND; ands++) {
+                    advance();
+                    if (!parseOne(open)) {
+                        return false;
+                    }
+                    emit(AND);
+                }
+                if (ors > 0) {
+                    emit(OR);
+                }
+                if (token != OR) {
+                    return true;
+                }
+                advance();
             }
-            return true;
+            return false;
         }
 
         private boolean parseOne(int open) {
             boolean turned = false;
-            for (int i = 0; i < TAPE_SIZE && token == NOT; i++) {
+            for (int nots = 0; nots < TAPE_SIZE && token == NOT; nots++) {
                 turned = !turned;
                 advance();
             }
-            if (!parsePlain(open)) {
-                return false;
-            }
-            if (turned) {
-                emit(NOT);
-            }
-            return true;
-        }
-
-        private boolean parsePlain(int open) {
+            boolean isOne = false;
             if (token == FELL || token == FOUND) {
                 emit(token);
                 advance();
-                return true;
+                isOne = true;
+            } else if (within(token, WORTH, LAST_FACT)) {
+                isOne = parseCompare();
+            } else if (token == SIGN + '(' && open < OPEN_MOST) {
+                advance();
+                isOne = parseCond(open + 1) && token == SIGN + ')';
+                if (isOne) {
+                    advance();
+                }
             }
-            if (within(token, WORTH, LAST_FACT)) {
-                return parseCompare();
+            if (isOne && turned) {
+                emit(NOT);
             }
-            if (token != SIGN + '(' || open >= OPEN_MOST) {
-                return false;
-            }
-            advance();
-            if (!parseCond(open + 1) || token != SIGN + ')') {
-                return false;
-            }
-            advance();
-            return true;
+            return isOne;
         }
 
         private boolean parseCompare() {
@@ -2033,7 +2027,7 @@ public final class BurstValley {
             int fact = (code & 255) - Reader.WORTH;
             int sign = code >> 8 & 255;
             int n = code >> 16;
-            if (!within(fact, 0, FACTS - 1)) {
+            if (fact < 0 || fact >= FACTS) {
                 return false;
             }
             return sign == '<' ? facts[fact] < n : sign == '>' ? facts[fact] > n : facts[fact] == n;
@@ -2229,15 +2223,16 @@ public final class BurstValley {
             int heard = 0;
             int reach = fromReach;
             int day = fromDay;
-            for (rows = 0; rows < members; rows++) {
-                int more = rows == 0 ? 0 : 1;
+            for (int i = 0; i < members; i++) {
+                int more = i == 0 ? 0 : 1;
                 int next = bestNext(heard, reach, more);
                 day += Math.abs(memberReach[next] - reach) + more;
                 reach = memberReach[next];
                 heard |= 1 << next;
-                rowClaim[rows] = member[next];
-                rowDay[rows] = day;
+                rowClaim[i] = member[next];
+                rowDay[i] = day;
             }
+            rows = members;
         }
 
         private int bestNext(int heard, int reach, int more) {

@@ -101,7 +101,8 @@ final class ActTest {
             {"pay 1 if fell fell;", 14}, {"pay 1 if fell if", 14}, {"pay 1 if fell)", 13}, {"pay 1 if fell or;", 16},
             {"rank 10;", 5}, {"rank 9 if not", 13}, {"rank 9 if not;", 13}, {"rank 9 if ()", 11},
             {"bar", 3}, {"bar 1;", 4}, {"bar fell;", 4}, {"bar if", 6}, {"bar if 5", 7}, {"bar if fel;", 7},
-            {"bar if fell<1;", 11}, {"bar if worth", 12}, {"bar if worth;", 12}, {"bar if worth!1;", 12},
+            {"bar if fell<1;", 11}, {"bar if fell and;", 15}, {"bar if fell and or fell;", 16},
+            {"bar if fell or and fell;", 15}, {"bar if fell not fell;", 12}, {"bar if not and fell;", 11}, {"bar if worth", 12}, {"bar if worth;", 12}, {"bar if worth!1;", 12},
             {"bar if worth<", 13}, {"bar if worth<=1;", 13}, {"bar if worth<1000;", 13}, {"bar if worth<kin;", 13},
             {"bar if worth<1 2;", 15}, {"bar if (fell", 12}, {"bar if (fell;", 12}, {"bar if (fell))", 13},
             {"bar if(((((fell)))));", 10}, {"bar if(fell)and((((fell))and(((", 30}, {"bar if (fell)(", 13},
@@ -429,6 +430,10 @@ final class ActTest {
         read(z, "pay 1;");
         Check.due("OWED TODAY", z.pay(), 1);
         Check.due("PAID", z.claimOf(0, 0, 6), 2);
+        z.thing(0, 205, 199);
+        z.claim(0, 3);
+        Check.due("1 is above 0", z.pay(), 1);
+        Check.due("PAID", z.claimOf(1, 0, 6), 1);
     }
 
     private static void offer() {
