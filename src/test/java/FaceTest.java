@@ -92,6 +92,9 @@ final class FaceTest {
             Check.isTrue(c + " has some twenty fields", fields <= 20);
             for (Method m : c.getDeclaredMethods()) {
                 Check.isTrue(m + " takes seven at most", m.getParameterCount() <= 7);
+                for (String call : FACE) {
+                    Check.isTrue(m + " is no call of the face", !call.split(" ")[0].equals(m.getName()));
+                }
             }
         }
     }
