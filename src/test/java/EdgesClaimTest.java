@@ -35,6 +35,7 @@ final class EdgesClaimTest {
         payOnce();
         payByTheActOfToday();
         offerOfWhatIsThere();
+        barredIsOwedNothing();
         unlikeOnlyIf();
         likestOfSeveral();
         likestCountsEachOfSix();
@@ -680,6 +681,22 @@ final class EdgesClaimTest {
         x.fund(999);
         Check.due("PAID already", x.offer(0, 1), STATE);
         Check.due("the most", x.offer(1, 999), 0);
+        Check.due("many(10)", x.many(10), 2);
+    }
+
+    /** "OWED: 0 if BARRED": pay() passes it over, an OFFER doesn't ask. */
+    private static void barredIsOwedNothing() {
+        BurstValley x = twoClaims();
+        Edges.read(x, "pay 50; proof 1;");
+        Check.due("both are BARRED", x.pay(), 0);
+        Check.due("OWED", x.claimOf(1, 0, 4), 0);
+        x.proof(1, -1);
+        Check.due("one isn't any more", x.pay(), 1);
+        Check.due("that one", x.claimOf(1, 0, 6), 100);
+        Check.due("the other one waits", x.claimOf(0, 0, 6), NONE);
+        Check.due("an OFFER for it", x.offer(0, 999), 9999 - 100 - 999);
+        Check.due("BARRED and PAID", x.claimOf(0, 0, 3), 1);
+        Check.due("PAID", x.claimOf(0, 0, 6), 999);
         Check.due("many(10)", x.many(10), 2);
     }
 

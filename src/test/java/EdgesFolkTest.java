@@ -23,6 +23,7 @@ final class EdgesFolkTest {
         thingLiesForGood();
         thingGoesOutOfTheValley();
         thingAtTheEndOfTheNight();
+        thingOfAnotherNight();
         whoseOfSortAndReach();
         whoseWhereTheHouseFalls();
         whoseInSomePossibleNight();
@@ -404,6 +405,26 @@ final class EdgesFolkTest {
             Check.due("as far as the MINUTES go", x.lies(0, 1, 0), c[1]);
             Check.due("99 come again in each MINUTE", x.lies(1, 1, 0), c[0] == 179 ? 0 : 1);
         }
+    }
+
+    /** A NIGHT in which a THING still goes on in MINUTE 179 tells nothing of the next one. */
+    private static void thingOfAnotherNight() {
+        BurstValley x = new BurstValley();
+        for (int r = 0; r < 12; r++) {
+            x.reach(r, 1, 2);
+        }
+        x.pond(9999);
+        x.house(0, 99, 0);
+        x.thing(0, 101, 1);
+        x.gate(99, 178);
+        Check.due("goes on in MINUTE 179", x.lies(0, 1, 0), 1);
+        x.gate(40, 0);
+        Check.due("40, 60, 70, .., never 99", x.falls(1, 0, 0), BurstValley.NONE);
+        x.gate(99, 178);
+        Check.due("goes on in MINUTE 179", x.lies(0, 1, 0), 1);
+        x.gate(40, 0);
+        Check.due("its HOUSE stands", x.lies(0, 1, 0), 100);
+        Check.due("its HOUSE stands", x.lies(0, 1, 1), 100);
     }
 
     private static void whoseOfSortAndReach() {

@@ -18,6 +18,7 @@ final class EdgesKeptTest {
         keptOfANewObject();
         numbersGoOnFromWhatWasKept();
         objectsOfTheirOwn();
+        fiveHundredAndTwelveCalls();
         Check.finish("EdgesKeptTest");
     }
 
@@ -279,5 +280,17 @@ final class EdgesKeptTest {
         y.deal(0, 0, 0);
         Check.due("the first stays", x.many(16), 3000);
         Check.due("the first's TRACE stays", x.many(15) > 0 ? 1 : 0, 1);
+    }
+
+    /** "An object is used for at most 512 calls": the last of them answers as the first one. */
+    private static void fiveHundredAndTwelveCalls() {
+        BurstValley x = new BurstValley();
+        x.house(0, 9, 0);
+        x.gate(99, 0);
+        for (int call = 3; call <= 511; call++) {
+            boolean isEven = call % 2 == 0;
+            Check.due("call " + call, x.pond(isEven ? 0 : 99), isEven ? 99 : 0);
+        }
+        Check.due("call 512", x.sure(0), 2);
     }
 }

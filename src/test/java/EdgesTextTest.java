@@ -444,8 +444,8 @@ final class EdgesTextTest {
         for (int i = 1; i < 8; i++) {
             String cond = "fell or ".repeat(12);
             Check.due("a long one with a FAULT", Edges.read(x, "pay 1 if " + cond + "fell fell;"), -109 - 12 * 8 - 5);
-            Check.due("a long one", Edges.read(x, "pay 7 if " + cond + "kin=1; pay " + i + " if " + cond + "kin=2;"), i);
-            Check.due("OWED by it", x.claimOf(0, 0, 4), 14);
+            Check.due("a long one", Edges.read(x, "pay 77 if " + cond + "kin=2; pay " + i + " if " + cond + "kin=1;"), i);
+            Check.due("OWED by it", x.claimOf(0, 0, 4), 2 * i);
         }
     }
 }
