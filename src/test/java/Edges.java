@@ -65,7 +65,7 @@ final class Edges {
         x.find(1, 5);
         x.find(2, 3);
         x.days(3);
-        read(x, "pay 50 if kin=1; pay 20; rank 3 if fell; bar if proofs>4; late 500;");
+        read(x, "pay 50 if kin=1; pay 20; rank 3 if fell; bar if proofs>4; late 3;");
         x.claim(0, 0);
         x.claim(1, 0);
         x.claim(2, 1);
@@ -187,7 +187,7 @@ final class Edges {
         }
     }
 
-    private static void lookAtClaims(BurstValley x, List<Integer> seen) {
+    static void lookAtClaims(BurstValley x, List<Integer> seen) {
         for (int claim = 0; claim < 5; claim++) {
             for (int what = 0; what < 8; what++) {
                 seen.add(x.claimOf(claim, 999, what));
@@ -203,7 +203,7 @@ final class Edges {
     }
 
     /** Each of these calls answers what there was. */
-    private static void tell(BurstValley x, List<Integer> seen) {
+    static void tell(BurstValley x, List<Integer> seen) {
         for (int reach = 0; reach < 12; reach++) {
             seen.add(x.reach(reach, 9, 3));
         }

@@ -1,5 +1,6 @@
 import java.util.ArrayList;
 import java.util.List;
+import java.util.function.Function;
 import java.util.function.Supplier;
 import java.util.function.ToIntFunction;
 
@@ -12,16 +13,21 @@ final class RefusalTest {
     private static final int MIN = Integer.MIN_VALUE;
     private static final int MAX = Integer.MAX_VALUE;
 
-    private record Refused(String what, int due, ToIntFunction<BurstValley> call) {
+    record Refused(String what, int due, ToIntFunction<BurstValley> call) {
     }
 
     private final List<Refused> all = new ArrayList<>();
 
     public static void main(String[] args) {
         theConstants();
-        changesNothing(Edges::some, refusedBySome());
-        changesNothing(Edges::full, refusedByFull());
+        changesNothing(RefusalTest::some, refusedBySome());
+        changesNothing(RefusalTest::full, refusedByFull());
         changesNothing(BurstValley::new, refusedByNew());
+        changesNothing(RefusalTest::fullTape, refusedByFullTape());
+        changesNothing(RefusalTest::wrongTables, refusedByWrongTables());
+        changesNothing(RefusalTest::nothingKept, refusedWhereNothingIsKept());
+        changesNothing(RefusalTest::noRound, refusedWhereThereWasNoRound());
+        changesNothing(RefusalTest::noRowLeft, refusedWhereNoRowIsLeft());
         aFaultUsesUpTheTapeAlone();
         aFullReadUsesUpTheTapeAlone();
         theFirstNamedIsAnswered();
@@ -39,15 +45,214 @@ final class RefusalTest {
         Check.due("STATE", BurstValley.STATE, -4);
     }
 
-    /** "such a call changes nothing" */
-    private static void changesNothing(Supplier<BurstValley> made, List<Refused> refused) {
-        List<Integer> untouched = Edges.look(made.get());
+    /**
+     * "such a call changes nothing". Edges.look() is refused some of its calls itself, so what is kept and what the
+     * host holds is asked of objects of their own, too, with calls that are taken.
+     */
+    static void changesNothing(Supplier<BurstValley> made, List<Refused> refused) {
+        changesNothing(made, refused, Edges::look);
+        changesNothing(made, refused, RefusalTest::lookAtWhatIsKept);
+        changesNothing(made, refused, RefusalTest::lookAtWhatWasTold);
+        changesNothing(made, refused, RefusalTest::lookAtClaims);
+        changesNothing(made, refused, RefusalTest::lookAtShelves);
+        changesNothing(made, refused, RefusalTest::lookAtSheets);
+    }
+
+    private static void changesNothing(Supplier<BurstValley> made, List<Refused> refused,
+            Function<BurstValley, List<Integer>> look) {
+        List<Integer> untouched = look.apply(made.get());
         for (Refused r : refused) {
             BurstValley x = made.get();
             Check.due(r.what, r.call.applyAsInt(x), r.due);
-            List<Integer> now = Edges.look(x);
+            List<Integer> now = look.apply(x);
             Check.isTrue(r.what + " changes nothing", now.equals(untouched));
         }
+    }
+
+    private static List<Integer> lookAtWhatIsKept(BurstValley x) {
+        List<Integer> seen = new ArrayList<>();
+        seen.add(x.again());
+        for (int what = 0; what <= 16; what++) {
+            seen.add(x.many(what));
+        }
+        return seen;
+    }
+
+    private static List<Integer> lookAtWhatWasTold(BurstValley x) {
+        List<Integer> seen = new ArrayList<>();
+        Edges.tell(x, seen);
+        return seen;
+    }
+
+    private static List<Integer> lookAtClaims(BurstValley x) {
+        List<Integer> seen = new ArrayList<>();
+        Edges.lookAtClaims(x, seen);
+        return seen;
+    }
+
+    private static List<Integer> lookAtShelves(BurstValley x) {
+        List<Integer> seen = new ArrayList<>();
+        seen.add(x.taken(0, 0));
+        seen.add(x.taken(1, 5));
+        seen.add(x.taken(2, 10));
+        seen.add(x.deal(0, 1, 9));
+        seen.add(x.deal(1, 0, 9));
+        return seen;
+    }
+
+    private static List<Integer> lookAtSheets(BurstValley x) {
+        List<Integer> seen = new ArrayList<>();
+        seen.add(x.item(0, 0, 2));
+        seen.add(x.table(1, 3));
+        seen.add(x.depth(1, 0, 0, 0));
+        seen.add(x.put(0, 2, 5));
+        seen.add(x.item(0, 0, 2));
+        return seen;
+    }
+
+    private static void putOnTape(BurstValley x, String text) {
+        for (int i = 0; i < text.length(); i++) {
+            x.feed(text.charAt(i), 1);
+        }
+    }
+
+    static BurstValley some() {
+        BurstValley x = Edges.some();
+        putOnTape(x, "pay 7;");
+        return x;
+    }
+
+    private static void tellHost(BurstValley x) {
+        x.sheet(0, 0, 3);
+        x.put(0, 2, 77);
+        x.shelf(0, 0, 3);
+        x.shelf(1, 1, 1);
+        x.shelf(2, 2, 0);
+    }
+
+    /** Edges.full(), and something of what is not kept; THE TAPE is empty. */
+    private static BurstValley fullWithoutTape() {
+        BurstValley x = Edges.full();
+        x.offer(1, 60);
+        x.tear(3, true);
+        x.keep();
+        x.round(0b1101, 4);
+        tellHost(x);
+        x.deal(0, 1, 5);
+        return x;
+    }
+
+    private static BurstValley full() {
+        BurstValley x = fullWithoutTape();
+        putOnTape(x, "pay 7;");
+        return x;
+    }
+
+    private static BurstValley fullTape() {
+        BurstValley x = Edges.some();
+        putOnTape(x, "pay 7;");
+        for (int i = 0; i < 29; i++) {
+            x.feed(0x2020202020202020L, 8);
+        }
+        x.feed(0x2020, 2);
+        return x;
+    }
+
+    /** SHEET 1 is too long for a TABLE, SHEET 2 has nothing, SHEET 3 has what is not as told. */
+    private static BurstValley wrongTables() {
+        BurstValley x = some();
+        x.sheet(1, 1, 9);
+        x.sheet(2, 1, 0);
+        x.put(3, 0, 1000);
+        return x;
+    }
+
+    /** Edges.some() has what is kept, a ROUND and a TRACE; this one has none of them. */
+    static BurstValley withoutThese() {
+        BurstValley x = new BurstValley();
+        x.pond(500);
+        Edges.table(x, 0, 90);
+        x.house(0, 5, 100);
+        for (int i = 0; i < 4; i++) {
+            x.word(i, 1 + i, 0, 20);
+        }
+        x.tear(1, true);
+        x.person(1, 0, 2);
+        x.person(2, 0, 2);
+        x.safe(1, true);
+        x.thing(0, 101, 90);
+        x.thing(0, 305, 40);
+        x.fund(400);
+        Edges.read(x, "pay 60; late 0;");
+        x.claim(0, 0);
+        x.claim(0, 1);
+        x.offer(1, 60);
+        x.days(4);
+        tellHost(x);
+        putOnTape(x, "pay 7;");
+        return x;
+    }
+
+    private static BurstValley nothingKept() {
+        BurstValley x = withoutThese();
+        x.deal(0, 1, 5);
+        x.round(0b11, 4);
+        return x;
+    }
+
+    private static BurstValley noRound() {
+        BurstValley x = withoutThese();
+        x.deal(0, 1, 5);
+        x.keep();
+        return x;
+    }
+
+    private static BurstValley noRowLeft() {
+        BurstValley x = nothingKept();
+        x.keep();
+        x.dropRow();
+        x.dropRow();
+        return x;
+    }
+
+    private static List<Refused> refusedByFullTape() {
+        RefusalTest t = new RefusalTest();
+        t.add("feed of 1", FULL, x -> x.feed(' ', 1));
+        t.add("feed of 8", FULL, x -> x.feed(0x2020202020202020L, 8));
+        t.add("feed of none", BAD, x -> x.feed(' ', 0));
+        return t.all;
+    }
+
+    private static List<Refused> refusedByWrongTables() {
+        RefusalTest t = new RefusalTest();
+        for (int sheet = 1; sheet <= 3; sheet++) {
+            int number = sheet;
+            t.add("table of SHEET " + sheet, STATE, x -> x.table(0, number));
+        }
+        return t.all;
+    }
+
+    private static List<Refused> refusedWhereNothingIsKept() {
+        RefusalTest t = new RefusalTest();
+        t.add("again", NONE, x -> x.again());
+        return t.all;
+    }
+
+    private static List<Refused> refusedWhereThereWasNoRound() {
+        RefusalTest t = new RefusalTest();
+        t.add("judge", NONE, x -> x.judge());
+        t.add("dropRow", NONE, x -> x.dropRow());
+        t.add("row", -9, x -> x.row(0, 0));
+        t.add("alterRow", -9, x -> x.alterRow(0, 0, 1));
+        return t.all;
+    }
+
+    private static List<Refused> refusedWhereNoRowIsLeft() {
+        RefusalTest t = new RefusalTest();
+        t.add("dropRow", NONE, x -> x.dropRow());
+        t.add("row", -9, x -> x.row(0, 1));
+        t.add("alterRow", -9, x -> x.alterRow(0, 1, 1));
+        return t.all;
     }
 
     /** Edges.some() has 3 HOUSES, 5 ROWS, 4 PERSONS, 3 NAMES, 3 THINGS, 2 FINDS, 4 CLAIMS, 3 ROWS of a ROUND. */
@@ -275,8 +480,7 @@ final class RefusalTest {
         t.add("proof", FULL, x -> x.proof(0, -1));
         t.add("round", FULL, x -> x.round(0b11111111, 0));
         t.add("round", FULL, x -> x.round(0xFFFF, 0));
-        t.add("dropRow", NONE, x -> x.dropRow());
-        t.add("judge", NONE, x -> x.judge());
+        t.add("offer", STATE, x -> x.offer(1, 5));
         return t.all;
     }
 
@@ -304,22 +508,22 @@ final class RefusalTest {
 
     /** "such a call changes nothing (but that THE TAPE is used up)" */
     private static void aFaultUsesUpTheTapeAlone() {
-        List<Integer> untouched = Edges.look(Edges.some());
-        for (String text : new String[] {"pay", "bar if kin=1; pay 77 if kin=9; rank 1; rank 10;", "pay 1;;"}) {
-            BurstValley x = Edges.some();
-            Check.isTrue("a FAULT", Edges.read(x, text) <= -100);
-            Check.isTrue("changes nothing", Edges.look(x).equals(untouched));
-        }
+        RefusalTest t = new RefusalTest();
+        t.add("an end", -103, x -> Edges.read(x, "pay"));
+        t.add("a NUMBER not as told", -144, x -> Edges.read(x, "bar if kin=1; pay 77 if kin=9; rank 1; rank 10;"));
+        t.add("a sign", -106, x -> Edges.read(x, "pay 1;;"));
+        changesNothing(Edges::some, t.all);
     }
 
     private static void aFullReadUsesUpTheTapeAlone() {
-        List<Integer> untouched = Edges.look(Edges.full());
-        BurstValley x = Edges.full();
-        Check.due("the ninth VERSION", Edges.read(x, "pay 50; bar if kin=1;"), FULL);
-        Check.isTrue("changes nothing", Edges.look(x).equals(untouched));
-        BurstValley y = Edges.full();
-        Check.due("the ninth VERSION with a FAULT", Edges.read(y, "pay 50; bar kin=1;"), -112);
-        Check.isTrue("changes nothing", Edges.look(y).equals(untouched));
+        changesNothing(RefusalTest::fullWithoutTape, refusedReads());
+    }
+
+    private static List<Refused> refusedReads() {
+        RefusalTest t = new RefusalTest();
+        t.add("the ninth VERSION", FULL, x -> Edges.read(x, "pay 50; bar if kin=1;"));
+        t.add("the ninth VERSION with a FAULT", -112, x -> Edges.read(x, "pay 50; bar kin=1;"));
+        return t.all;
     }
 
     /** "of several the first named" */
