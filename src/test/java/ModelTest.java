@@ -129,6 +129,9 @@ final class ModelTest {
         int[] most = {9, 9, 9, 12, 9, 16, 2, 2, 2, 4};
         for (int k = 0; k < most.length; k++) {
             for (int i = random.nextInt(most[k] + 1); i > 0; i--) {
+                if (names.get(k).equals("claim") && random.nextInt(4) == 0) {
+                    call("days", r(1, 2));
+                }
                 draw(names.get(k));
             }
         }
@@ -362,7 +365,7 @@ final class ModelTest {
         String cond = isShort ? "" : drawCond(0);
         String wanted = random.nextInt(3) == 0 || isShort ? "" : " if " + cond;
         switch (random.nextInt(isShort ? 4 : 8)) {
-            case 0: return "late " + number(random.nextBoolean() ? 50 : 999);
+            case 0: return "late " + drawLate();
             case 1: return "proof " + number(random.nextBoolean() ? 2 : 999);
             case 2: return "pay" + (random.nextBoolean() ? " " : "") + number(100) + wanted;
             case 3: return "rank " + number(9) + wanted;
@@ -370,6 +373,14 @@ final class ModelTest {
             case 5: return "rank " + number(9) + wanted;
             default: return "pay " + number(100) + wanted;
         }
+    }
+
+    /** Mostly a DAY or some ahead of TODAY, so that of the CLAIMS that are there some are made above it. */
+    private String drawLate() {
+        if (random.nextInt(4) == 0) {
+            return number(random.nextBoolean() ? 50 : 999);
+        }
+        return "" + Math.max(0, Math.min(999, plain.many(0) + 1 - random.nextInt(6)));
     }
 
     private String number(int most) {
